@@ -391,9 +391,10 @@ public final class GreenHours {
             if (works.get(job).state != WAITS) {
                 continue;
             }
+            int rank = rankOf(job);
             int at = n;
             // Only strictly later ones move up, so that the lesser number stays ahead.
-            while (at > 0 && rank(order[at - 1]) > rank(job)) {
+            while (at > 0 && rankOf(order[at - 1]) > rank) {
                 order[at] = order[at - 1];
                 at--;
             }
@@ -404,7 +405,7 @@ public final class GreenHours {
     }
 
     /** Those BEHIND go ahead of every DUE of the others. */
-    private int rank(int job) {
+    private int rankOf(int job) {
         Work work = works.get(job);
         return isBehind(work.owner) ? work.due : work.due + HOURS + 1;
     }
@@ -669,17 +670,21 @@ public final class GreenHours {
 
         /** A window slides over the HOURS: one is added, one taken away. */
         private void fillRow(Sites sites, Work work, int p, int end, boolean anyRoom) {
+            int[] green = sites.greens[p];
+            int[] room = sites.rooms[p];
+            int[] row = table[p];
+            int length = work.length;
             int sum = sites.carriage(work, p);
             int open = 0;
             for (int h = first; h < end; h++) {
-                int begin = h - work.length + 1;
-                sum += sites.greens[p][h];
+                int begin = h - length + 1;
+                sum += green[h];
                 if (begin > first) {
-                    sum -= sites.greens[p][begin - 1];
+                    sum -= green[begin - 1];
                 }
-                open = anyRoom || sites.rooms[p][h] > 0 ? open + 1 : 0;
+                open = anyRoom || room[h] > 0 ? open + 1 : 0;
                 if (begin >= first) {
-                    table[p][begin] = open >= work.length ? sum : NONE;
+                    row[begin] = open >= length ? sum : NONE;
                 }
             }
         }

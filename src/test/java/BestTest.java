@@ -10,7 +10,41 @@ public final class BestTest {
         for (int run = 0; run < 250; run++) {
             compare(c, random, run);
         }
+        allOfTheCheapestTaken(c);
+        cheapestBesideBegun(c);
         c.end("BestTest");
+    }
+
+    /** The other two must stand in the way of 23 LAYINGS each, which are the 46 cheapest. */
+    private static void allOfTheCheapestTaken(Check c) {
+        GreenHours x = new GreenHours();
+        x.place(1);
+        x.green(0, 0, 299, 999);
+        x.green(0, 19, 52, 1);
+        x.green(0, 59, 92, 1);
+        x.job(0, 0, 12, 0, 300, 0);
+        x.job(0, 0, 12, 30, 42, 0);
+        x.job(0, 0, 12, 70, 82, 0);
+        c.due("the 47th cheapest", x.best(), 999 + 11 + 12 + 12);
+    }
+
+    /** LAYINGS for which those BEGUN leave no ROOM must not hide the others. */
+    private static void cheapestBesideBegun(Check c) {
+        GreenHours x = new GreenHours();
+        for (int p = 0; p < 4; p++) {
+            x.place(1);
+            x.job(0, p, 12, 0, 12, 0);
+        }
+        x.pass(1);
+        c.due("BEGUN", x.count(3), 4);
+        for (int p = 0; p < 4; p++) {
+            x.green(p, 1, 22, 0);
+        }
+        x.green(0, 23, 25, 0);
+        for (int i = 0; i < 3; i++) {
+            x.job(0, 0, 12, 1, 40, 0);
+        }
+        c.due("one at PLACE 0, two elsewhere", x.best(), 1000);
     }
 
     private static void compare(Check c, Random random, int run) {

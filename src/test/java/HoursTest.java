@@ -132,6 +132,15 @@ public final class HoursTest {
         x.job(0, 0, 1, 2, 3, 0);
         c.due("one DONE", x.pass(1), 1);
         c.due("the other LOST", x.about(2, 0), 3);
+        x = new GreenHours();
+        x.place(1);
+        x.job(0, 0, 2, 0, 3, 0);
+        x.job(0, 0, 2, 0, 2, 0);
+        x.pass(1);
+        c.due("JOB 0 might still begin in the next HOUR", x.about(0, 0), 0);
+        c.due("JOB 1, DUE ahead of it, is BEGUN", x.about(1, 0), 1);
+        x.pass(1);
+        c.due("JOB 0 is LOST", x.about(0, 0), 3);
     }
 
     private static void delays(Check c) {

@@ -175,16 +175,21 @@ public final class PlacesTest {
 
     private static void patiences(Check c) {
         GreenHours x = new GreenHours();
-        x.place(1);
+        x.place(2);
         int[] wrong = {LEAST, -1, 0, 501, MOST};
         for (int v : wrong) {
             c.refused("patience(" + v + ")", x, x.patience(v), 2);
         }
         x.green(0, 0, 23, 900);
+        x.green(0, 24, 24, 100);
+        x.green(0, 25, 25, 10);
         x.job(3, 0, 1, 0, 25, 0);
-        x.pass(25);
+        x.job(4, 0, 1, 0, 26, 0);
+        x.pass(26);
         c.due("delay(3) at 24", x.delay(3), 24);
         c.due("24 is no more than 24 at first", x.behind(3), 0);
+        c.due("delay(4) at 25", x.delay(4), 25);
+        c.due("25 is more than 24 at first", x.behind(4), 1);
         c.granted("patience(23)", x, x.patience(23));
         c.due("24 is more than 23", x.behind(3), 1);
         c.granted("patience(500)", x, x.patience(500));
