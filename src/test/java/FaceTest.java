@@ -15,30 +15,44 @@ public final class FaceTest {
         "int paid()", "int atOnce()", "int saved()", "int regret(int)", "int worst()",
         "int would(int,int,int)", "int count(int)", "int trouble()"};
 
-    public static void main(String[] args) throws ReflectiveOperationException {
-        Check c = new Check();
-        Class<?> k = GreenHours.class;
-        c.due("public final", k.getModifiers(), Modifier.PUBLIC | Modifier.FINAL);
-        methods(c, k);
-        fields(c, k);
-        Constructor<?>[] made = k.getDeclaredConstructors();
+    private static final Class<?> CLASS = GreenHours.class;
+
+    public static void main(String[] args) {
+        Check c = new Check("The face");
+        c.test("public and final", FaceTest::kind);
+        c.test("the methods and no others", FaceTest::methods);
+        c.test("the constant and no other field", FaceTest::fields);
+        c.test("one constructor", FaceTest::constructors);
+        c.test("classes inside", FaceTest::classesInside);
+        c.end();
+    }
+
+    private static void kind(Check c) {
+        c.due("modifiers", CLASS.getModifiers(), Modifier.PUBLIC | Modifier.FINAL);
+    }
+
+    private static void constructors(Check c) {
+        Constructor<?>[] made = CLASS.getDeclaredConstructors();
         c.due("constructors", made.length, 1);
         c.due("a public one", Modifier.isPublic(made[0].getModifiers()), true);
         c.due("without arguments", made[0].getParameterCount(), 0);
-        for (Class<?> inside : k.getDeclaredClasses()) {
-            c.due(inside + " is static", Modifier.isStatic(inside.getModifiers()), true);
-            c.due(inside + " is not public", Modifier.isPublic(inside.getModifiers()), false);
-        }
-        c.end("FaceTest");
     }
 
-    private static void methods(Check c, Class<?> k) {
+    private static void classesInside(Check c) {
+        for (Class<?> inside : CLASS.getDeclaredClasses()) {
+            c.due(inside + " is static", Modifier.isStatic(inside.getModifiers()), true);
+            c.due(inside + " is not public", Modifier.isPublic(inside.getModifiers()), false);
+            c.due(inside + " is not protected", Modifier.isProtected(inside.getModifiers()), false);
+        }
+    }
+
+    private static void methods(Check c) {
         Set<String> due = new TreeSet<>(Set.of(FACE));
         Set<String> names = new TreeSet<>();
         for (String s : FACE) {
             names.add(s.substring(s.indexOf(' ') + 1, s.indexOf('(')));
         }
-        for (Method m : k.getDeclaredMethods()) {
+        for (Method m : CLASS.getDeclaredMethods()) {
             if (Modifier.isPrivate(m.getModifiers())) {
                 c.due("private " + m.getName() + " bears a public name",
                     names.contains(m.getName()), false);
@@ -58,13 +72,13 @@ public final class FaceTest {
         return s.append(")").toString();
     }
 
-    private static void fields(Check c, Class<?> k) throws ReflectiveOperationException {
-        Field none = k.getDeclaredField("NONE");
-        c.due("NONE", none.getInt(null), -1);
-        c.due("NONE is a constant", none.getModifiers(),
-            Modifier.PUBLIC | Modifier.STATIC | Modifier.FINAL);
-        for (Field f : k.getDeclaredFields()) {
-            if (!f.equals(none)) {
+    private static void fields(Check c) {
+        c.due("NONE", GreenHours.NONE, -1);
+        for (Field f : CLASS.getDeclaredFields()) {
+            if (f.getName().equals("NONE")) {
+                c.due("NONE is a constant", f.getModifiers(),
+                    Modifier.PUBLIC | Modifier.STATIC | Modifier.FINAL);
+            } else {
                 c.due(f + " is private", Modifier.isPrivate(f.getModifiers()), true);
             }
         }

@@ -1,7 +1,14 @@
 import java.util.Random;
 
-/** Random runs, from fixed seeds, of GreenHours beside the plain model; no call may throw. */
+/**
+ * Random runs, from fixed seeds, of GreenHours beside the plain model; no call may throw. An object
+ * is asked no more than the 512 calls for which the document speaks.
+ */
 public final class ModelTest {
+    private static final int SEEDS = 1500;
+    private static final int CALLS = 512;
+    /** The most calls of one step or one ask. */
+    private static final int CALLS_AT_ONCE = 30;
     private static final int[] WILD = {Integer.MIN_VALUE, Integer.MIN_VALUE + 1, -300, -2, -1, 0, 1, 2,
         3, 4, 5, 6, 9, 10, 12, 13, 39, 40, 48, 49, 99, 100, 298, 299, 300, 301, 500, 501, 999, 1000,
         Integer.MAX_VALUE - 1, Integer.MAX_VALUE};
@@ -13,42 +20,49 @@ public final class ModelTest {
     private final int seed;
     /** How far DUE may lie behind the least that it must be. */
     private final int slack;
+    /** How many HOURS go at once, so that some runs come to the last one. */
+    private final int stride;
+    private int calls = 0;
     private String last = "";
 
-    private ModelTest(Check check, int seed, int slack) {
+    private ModelTest(Check check, int seed) {
         this.check = check;
         this.seed = seed;
-        this.slack = slack;
+        this.slack = seed % 2 == 0 ? 6 : 30;
+        this.stride = seed % 3 == 0 ? 20 : 4;
         this.random = new Random(seed);
     }
 
     public static void main(String[] args) {
-        Check check = new Check();
-        for (int seed = 0; seed < 400 && check.wrongSoFar() < 20; seed++) {
-            new ModelTest(check, seed, seed % 2 == 0 ? 6 : 30).run();
+        Check check = new Check("Beside the model");
+        check.test("random runs", ModelTest::runs);
+        check.end();
+    }
+
+    private static void runs(Check check) {
+        for (int seed = 0; seed < SEEDS && check.wrongSoFar() < 20; seed++) {
+            new ModelTest(check, seed).run();
         }
-        check.end("ModelTest");
     }
 
     private void run() {
         if (seed % 5 != 0) {
             for (int i = random.nextInt(3); i >= 0; i--) {
-                same("place", x, m, random.nextInt(3) + 1);
+                addPlace(random.nextInt(3) + 1);
             }
         }
-        for (int i = 0; i < 160; i++) {
+        while (calls < CALLS - 3 * CALLS_AT_ONCE) {
             step(random.nextInt(100));
             due("trouble()", x.trouble(), m.trouble);
         }
-        compareAll();
+        while (calls <= CALLS - CALLS_AT_ONCE) {
+            ask();
+        }
     }
 
-    private void same(String name, GreenHours a, Model b, int room) {
-        last = name + "(" + room + ")";
-        due(last, a.place(room), b.place(room));
-    }
-
+    /** Each answer is that of one call. */
     private void due(String call, long got, long want) {
+        calls++;
         check.due("seed " + seed + " behind " + last + ": " + call, got, want);
     }
 
@@ -75,7 +89,7 @@ public final class ModelTest {
 
     private void step(int kind) {
         if (kind < 3) {
-            same("place", x, m, or(random.nextInt(9) + 1));
+            addPlace(or(random.nextInt(9) + 1));
         } else if (kind < 8) {
             int a = anyPlace();
             int b = anyPlace();
@@ -101,7 +115,7 @@ public final class ModelTest {
         } else if (kind < 74) {
             compareBest();
         } else if (kind < 84) {
-            int n = or(random.nextInt(4) + 1);
+            int n = or(random.nextInt(stride) + 1);
             last = "pass(" + n + ")";
             due(last, x.pass(n), m.pass(n));
         } else if (kind < 90) {
@@ -113,6 +127,11 @@ public final class ModelTest {
         } else {
             ask();
         }
+    }
+
+    private void addPlace(int room) {
+        last = "place(" + room + ")";
+        due(last, x.place(room), m.place(room));
     }
 
     private void tellGreen() {
@@ -152,51 +171,36 @@ public final class ModelTest {
         }
     }
 
+    private void compareLaid() {
+        due("cost()", x.cost(), m.cost());
+        int first = random.nextInt(Math.max(1, m.jobs.size()));
+        for (int j = first; j < first + 8; j++) {
+            for (int w = 0; w <= 2; w++) {
+                due("laid(" + j + ", " + w + ")", x.laid(j, w), m.laid(j, w));
+            }
+        }
+    }
+
     private void ask() {
-        int a = anyJob();
+        int j = anyJob();
         int p = anyPlace();
         int h = anyHour();
         int w = or(random.nextInt(11));
         due("told(" + p + ", " + h + ")", x.told(p, h), m.told(p, h));
-        due("about(" + a + ", " + w + ")", x.about(a, w), m.about(a, w));
-        due("laid(" + a + ", " + w + ")", x.laid(a, w), m.laid(a, w));
+        due("about(" + j + ", " + w + ")", x.about(j, w), m.about(j, w));
+        for (int what = 0; what <= 3; what++) {
+            due("about(" + j + ", " + what + ")", x.about(j, what), m.about(j, what));
+        }
+        due("laid(" + j + ", " + w + ")", x.laid(j, w), m.laid(j, w));
         due("free(" + p + ", " + h + ")", x.free(p, h), m.free(p, h));
         due("delay(" + w + ")", x.delay(w), m.delay(w));
         due("behind(" + w + ")", x.behind(w), m.behind(w));
-        due("regret(" + a + ")", x.regret(a), m.regret(a));
+        due("regret(" + j + ")", x.regret(j), m.regret(j));
         due("count(" + w + ")", x.count(w), m.count(w));
         due("cost()", x.cost(), m.cost());
         due("paid()", x.paid(), m.paid());
         due("atOnce()", x.atOnce(), m.atOnce());
         due("saved()", x.saved(), m.saved());
         due("worst()", x.worst(), m.worst());
-    }
-
-    private void compareLaid() {
-        for (int j = -1; j <= 40; j++) {
-            for (int w = -1; w <= 3; w++) {
-                due("laid(" + j + ", " + w + ")", x.laid(j, w), m.laid(j, w));
-            }
-        }
-        due("cost()", x.cost(), m.cost());
-    }
-
-    private void compareAll() {
-        compareLaid();
-        for (int j = -1; j <= 40; j++) {
-            for (int w = -1; w <= 10; w++) {
-                due("about(" + j + ", " + w + ")", x.about(j, w), m.about(j, w));
-            }
-            due("regret(" + j + ")", x.regret(j), m.regret(j));
-        }
-        for (int p = -1; p <= 4; p++) {
-            for (int h = -1; h <= 300; h++) {
-                due("told(" + p + ", " + h + ")", x.told(p, h), m.told(p, h));
-                due("free(" + p + ", " + h + ")", x.free(p, h), m.free(p, h));
-            }
-        }
-        for (int i = 0; i < 10; i++) {
-            ask();
-        }
     }
 }

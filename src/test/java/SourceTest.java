@@ -11,18 +11,41 @@ public final class SourceTest {
         "\\bSystem\\.(?!arraycopy)", "\\bRandom\\b", "\\bThread\\b", "\\bstatic\\s*\\{",
         "\\bdouble\\b", "\\bfloat\\b", "\\bprotected\\b", "\\bObject\\b"};
 
+    private final String text;
+    private final String code;
+
+    private SourceTest(String text) {
+        this.text = text;
+        this.code = text.replaceAll("(?s)/\\*.*?\\*/", "").replaceAll("//[^\n]*", "");
+    }
+
     public static void main(String[] args) throws IOException {
-        Check c = new Check();
-        String text = Files.readString(Path.of("src/main/java/GreenHours.java"));
-        String code = text.replaceAll("(?s)/\\*.*?\\*/", "").replaceAll("//[^\n]*", "");
+        SourceTest t = new SourceTest(Files.readString(Path.of("src/main/java/GreenHours.java")));
+        Check c = new Check("The source");
+        c.test("rules 2, 3, 4, 6 and 13: what must not be used", t::banned);
+        c.test("rule 4: the library", t::imports);
+        c.test("rule 5: static fields are final", t::statics);
+        c.test("rule 3: characters 0 to 255 alone", t::characters);
+        c.end();
+    }
+
+    private void banned(Check c) {
         for (String banned : BANNED) {
             c.due("uses of " + banned, count(code, banned), 0);
         }
+    }
+
+    private void imports(Check c) {
         c.due("imports", count(code, "\\bimport\\b"), 1);
         c.due("import of ArrayList", count(code, "import java\\.util\\.ArrayList;"), 1);
+    }
+
+    private void statics(Check c) {
         c.due("static fields that are not final", count(code, "\\bstatic (?!final)[^(;{]*[;=]"), 0);
+    }
+
+    private void characters(Check c) {
         c.due("characters above 255", count(text, "[^\\x00-\\xff]"), 0);
-        c.end("SourceTest");
     }
 
     private static int count(String text, String pattern) {
