@@ -78,20 +78,10 @@ public final class Promise12CostTest {
         c.due("cost() of none", x.cost(), 0);
     }
 
-    /** All but 4 of 40 fill HOME's ROOM and that of PLACES whose FARE is the greatest. */
     private static void greatest(Check c) {
-        GreenHours x = House.of(9, 9, 9, 9);
-        for (int p = 0; p < 4; p++) {
-            x.green(p, 0, 299, 999);
-            if (p > 0) {
-                x.fare(0, p, 99);
-            }
-        }
-        for (int i = 0; i < 40; i++) {
-            x.job(0, 0, 12, 0, 12, 99);
-        }
+        GreenHours x = House.dearest();
         c.due("lay()", x.lay(), 36);
-        c.due("cost()", x.cost(), 36 * 12 * 999 + 27 * 99 * 99);
+        c.due("cost()", x.cost(), House.DEAREST);
     }
 
     private static void leavesTrouble(Check c) {

@@ -66,18 +66,9 @@ public final class Promise18PaidTest {
     }
 
     private static void greatest(Check c) {
-        GreenHours x = House.of(9, 9, 9, 9);
-        for (int p = 0; p < 4; p++) {
-            x.green(p, 0, 299, 999);
-            if (p > 0) {
-                x.fare(0, p, 99);
-            }
-        }
-        for (int i = 0; i < 40; i++) {
-            x.job(0, 0, 12, 0, 12, 99);
-        }
+        GreenHours x = House.dearest();
         c.due("pass(12)", x.pass(12), 36);
-        c.due("paid()", x.paid(), 36 * 12 * 999 + 27 * 99 * 99);
+        c.due("paid()", x.paid(), House.DEAREST);
     }
 
     private static void leavesTrouble(Check c) {

@@ -1,5 +1,8 @@
 /** Houses from which tests begin, and what one looks like. */
 final class House {
+    /** What the 36 JOBS for which a dearest() house has ROOM cost, 27 of them away from HOME. */
+    static final int DEAREST = 36 * 12 * 999 + 27 * 99 * 99;
+
     private House() {
     }
 
@@ -32,6 +35,21 @@ final class House {
         }
         x.job(owner, 0, 1, 0, hours + 1, 0);
         x.pass(hours + 1);
+        return x;
+    }
+
+    /** With the most of all: 40 JOBS, of which all but 4 fill 4 PLACES up to HOUR 11. */
+    static GreenHours dearest() {
+        GreenHours x = of(9, 9, 9, 9);
+        for (int p = 0; p < 4; p++) {
+            x.green(p, 0, 299, 999);
+            if (p > 0) {
+                x.fare(0, p, 99);
+            }
+        }
+        for (int i = 0; i < 40; i++) {
+            x.job(0, 0, 12, 0, 12, 99);
+        }
         return x;
     }
 
